@@ -181,6 +181,10 @@ public final class PromiseTest {
         dueFault("lands 1;lands 1;", 1, 8);
         dueFault("lands 1;foo", 1, 8);
         dueFault("lands 1;Mark a 0;", 1, 8);
+        dueFault("lands 1;marks a 0;", 1, 8);
+        dueFault("lands 1;mar a 0;", 1, 8);
+        dueFault("lands 1;bark a 0;", 1, 8);
+        dueFault("lands 1;ears 0;", 1, 8);
         dueFault("lands\t1;", 1, 5);
         dueFault("lands 1;mark 5 0;", 1, 13);
         dueFault("lands 1;mark a b;", 1, 15);
@@ -300,6 +304,10 @@ public final class PromiseTest {
         dueSounds("gha", "");
         dueSounds("xxxxxxxxxx", "KSKSKSKSKSKSKSKSKSKS");
         dueSounds("cecicyca", "SK");
+        dueSounds("ce", "S");
+        dueSounds("ci", "S");
+        dueSounds("cy", "S");
+        dueSounds("co", "K");
         dueSounds("c", "K");
         dueSounds("ac", "VK");
         dueSounds("kqgjk", "K");
@@ -385,6 +393,24 @@ public final class PromiseTest {
         // KSKS.. of twenty against none.
         dueLikeness("xxxxxxxxxx", "h", 0, 0, 0);
         dueLikeness("xxxxxxxxxx", "x", 10, 10, 10);
+    }
+
+    /** Of each two signs of a row: 100 the same one, 50 kin, else 0. */
+    private static void dueKin(String signs, String kin, int what) {
+        for (char one : signs.toCharArray()) {
+            for (char other : signs.toCharArray()) {
+                MarkField x = of("lands 1;mark " + one + " 0;mark " + other + " 0;");
+                boolean related = kin.contains("" + one + other) || kin.contains("" + other + one);
+                int want = one == other ? 100 : related ? 50 : 0;
+                due("kin " + one + other, want, () -> x.two(0, 1, what));
+            }
+        }
+    }
+
+    private static void kin() {
+        dueKin("abcdefghijklmnopqrstuvwxyz", "il ij mn uv co bd pq ec", 0);
+        // One letter for each sound, V F K L M N P R S T.
+        dueKin("afklmnprst", "pf ks mn lr ts", 1);
     }
 
     private static void twos() {
@@ -541,6 +567,8 @@ public final class PromiseTest {
         due("alike still", 2, () -> x.shared(20));
         MarkField y = of("lands 1;lapse 0;mark abc 99 0;mark abc 99 0;use 0 1 1 9;use 1 0 1 9;consent 0 1;");
         due("with consent they are alike, too", 1, () -> y.shared(5));
+        MarkField w = of("lands 1;lapse 0;mark abc 99 0;mark abc 99 0;use 0 0 1 9;use 1 1 1 9;");
+        due("the other way round", 1, () -> w.shared(5));
         MarkField z = of("lands 1;lapse 0;mark abc 99 0;mark xyz 99 0;use 0 1 1 9;use 1 0 1 9;");
         due("not alike", 0, () -> z.shared(5));
         due("day -1", NO_ARGUMENT, () -> z.shared(-1));
@@ -560,6 +588,9 @@ public final class PromiseTest {
         MarkField y = of("lands 1;mark abc 10 0;mark abc 300 0;mark abc 200 0;use 1 0 20 30;use 2 1 20 30;");
         due("by use", 6, () -> y.refused(25, 0));
         due("the one filed first", 2, () -> y.refused(25, 1));
+        MarkField z = of("lands 1;mark abc 9 0;mark abc 8 0;");
+        due("mark 0 itself", 1, () -> z.refused(9, 0));
+        due("first of one", 0, () -> z.refused(9, 1));
         due("what ahead of the day", NO_ELEMENT, () -> y.refused(-1, 2));
         due("what -1", NO_ELEMENT, () -> y.refused(0, -1));
         due("day", NO_ARGUMENT, () -> y.refused(10000, 0));
@@ -670,6 +701,12 @@ public final class PromiseTest {
         MarkField v = of("lands 1;ear 100;like 40;mark pap 1 0;mark pap 5 0;");
         // All other letters make two sounds at most, 50 like the one; x makes three, 33.
         due("x at place 0", 23, () -> v.letterFor(1, 5));
+        // Only in half 1 it has priority: what stands in half 0 is nothing to it.
+        MarkField u = of("lands 1;lapse 0;mark mm 1 0;mark mm 99 0;use 1 1 5 9;");
+        due("half 1 alone", 0, () -> u.letterFor(1, 5));
+        due("and none when it has lapsed", NONE, () -> u.letterFor(1, 10));
+        MarkField t = of("lands 1;lapse 0;mark mm 1 0;mark mm 99 0;use 1 0 5 9;");
+        due("half 0 alone", 0, () -> t.letterFor(1, 5));
         due("mark 2", NO_ELEMENT, () -> v.letterFor(2, -1));
         due("mark -1", NO_ELEMENT, () -> v.letterFor(-1, 0));
         due("day", NO_ARGUMENT, () -> v.letterFor(0, 10000));
@@ -942,6 +979,13 @@ public final class PromiseTest {
         dueAnswer(x, "many((((((mark=2))))))", 0, 1);
         dueAnswer(x, "many not(not(not(mark=2)))and not(not(not(mark=3)))", 0, 2);
         dueAnswer(x, "many not not not not not not mark=2 and not not not not not not mark=2", 0, 1);
+        // What stands behind the first n bytes is not read, not even of a word or a number.
+        put(x, "many mark=11");
+        due("a number cut", 1, () -> x.ask(11, 0));
+        put(x, "first 2=marks");
+        due("a word cut", 2, () -> x.ask(12, 0));
+        put(x, "many mark=1 foo");
+        due("the rest is gone, too", 1, () -> x.ask(11, 0));
         MarkField none = new MarkField();
         dueAnswer(none, "many 1=1", 0, 0);
         dueAnswer(none, "first not 1=1", 0, NONE);
@@ -1009,6 +1053,7 @@ public final class PromiseTest {
         letters();
         uses();
         likeness();
+        kin();
         twos();
         crowds();
         stepping();
