@@ -319,7 +319,7 @@ public final class MarkField {
         if (!tape.takeName(n)) {
             return HIDDEN;
         }
-        int mark = imagine(n, classes, day);
+        int mark = imagine(likeness(), n, classes, day);
         if (what == 2) {
             return imagined.fieldOf(mark);
         }
@@ -335,7 +335,7 @@ public final class MarkField {
         if (!tape.takeName(n)) {
             return HIDDEN;
         }
-        int mark = imagine(n, 0, day);
+        int mark = imagine(likeness(), n, 0, day);
         int classes = 0;
         for (int c = 0; c < CLASSES; c++) {
             trial.classes[mark] = 1 << c;
@@ -596,9 +596,9 @@ public final class MarkField {
     }
 
     /** The trial is the register with the tape's name filed behind all others: its number. */
-    private int imagine(int n, int classes, int day) {
+    private int imagine(Likeness l, int n, int classes, int day) {
         trial.copy(now);
-        imagined.copy(likeness());
+        imagined.copy(l);
         int mark = trial.addMark(tape.bytes, 0, n, day);
         trial.classes[mark] = classes;
         imagined.hear(trial, mark);
@@ -997,11 +997,12 @@ public final class MarkField {
             }
             for (int i = 0; i < aLength; i++) {
                 int one = rows[a + i];
+                int kinOfOne = kin[one];
                 int aslant = costs[0];
                 costs[0] = 2 * (i + 1);
                 for (int j = 0; j < bLength; j++) {
                     int other = rows[b + j];
-                    int change = one == other ? 0 : isIn(other, kin[one]) ? 1 : 2;
+                    int change = one == other ? 0 : isIn(other, kinOfOne) ? 1 : 2;
                     int least = Math.min(aslant + change, Math.min(costs[j], costs[j + 1]) + 2);
                     aslant = costs[j + 1];
                     costs[j + 1] = least;
