@@ -1,96 +1,5 @@
-import java.util.NoSuchElementException;
-
 /** For each promise of the document its ordinary answers, its edges and its wrong inputs. */
-public final class PromiseTest {
-    private static final int NONE = MarkField.NONE;
-    private static final int HIDDEN = MarkField.HIDDEN;
-    /** Stands for an exception among answers. */
-    private static final int NO_ELEMENT = 2000000001;
-    private static final int NO_ARGUMENT = 2000000002;
-    private static int wrong = 0;
-    private static int checks = 0;
-
-    private interface Call {
-        int answer();
-    }
-
-    private static void due(String what, int want, Call call) {
-        checks++;
-        int got;
-        try {
-            got = call.answer();
-        } catch (NoSuchElementException e) {
-            got = NO_ELEMENT;
-        } catch (IllegalArgumentException e) {
-            got = NO_ARGUMENT;
-        }
-        if (got != want) {
-            wrong++;
-            System.out.println(what + ": answered " + got + ", due is " + want);
-        }
-    }
-
-    private static int bit(boolean yes) {
-        return yes ? 1 : 0;
-    }
-
-    /** Feeds a text (blanks behind it): how many bytes it has. */
-    private static int put(MarkField x, String text) {
-        for (int at = 0; at < text.length(); at += 20) {
-            int[] n = new int[5];
-            for (int k = 0; k < 20; k++) {
-                n[k / 4] = n[k / 4] << 8 | (at + k < text.length() ? text.charAt(at + k) : ' ');
-            }
-            x.feed(n[0], n[1], n[2], n[3], n[4]);
-        }
-        return text.length();
-    }
-
-    private static MarkField of(String text) {
-        MarkField x = new MarkField();
-        int n = put(x, text);
-        if (x.register(n) < 0) {
-            wrong++;
-            System.out.println("no register: " + text + " at " + x.fault());
-        }
-        return x;
-    }
-
-    private static void dueFault(String text, int fault, int place) {
-        MarkField x = of("lands 2;mark kept 1;");
-        x.rule(0, 50);
-        int n = put(x, text);
-        due("register of " + text, -10 - fault, () -> x.register(n));
-        due("place in " + text, place, () -> x.fault());
-        due("tape behind " + text, 0, () -> x.count(12));
-        due("marks behind " + text, 1, () -> x.count(2));
-        due("lands behind " + text, 2, () -> x.count(0));
-        due("acts behind " + text, 1, () -> x.count(11));
-    }
-
-    private static void dueAnswer(MarkField x, String text, int day, int want) {
-        int n = put(x, text);
-        due("ask " + text, want, () -> x.ask(n, day));
-        due("fault of " + text, NONE, () -> x.fault());
-        due("tape behind " + text, 0, () -> x.count(12));
-    }
-
-    private static void dueQuestionFault(String text, int fault, int place) {
-        MarkField x = of("lands 1;mark a 0;");
-        int n = put(x, text);
-        due("ask " + text, HIDDEN - fault, () -> x.ask(n, 0));
-        due("place in " + text, place, () -> x.fault());
-        due("tape behind " + text, 0, () -> x.count(12));
-    }
-
-    private static String times(String part, int times) {
-        StringBuilder text = new StringBuilder();
-        for (int k = 0; k < times; k++) {
-            text.append(part);
-        }
-        return text.toString();
-    }
-
+public final class PromiseTest extends Due {
     private static void newObject() {
         MarkField x = new MarkField();
         int[] want = {1, 2, 0, 0, 0, 60, 5, 2, 0, 30, 50, 0, 0, 0};
@@ -287,16 +196,6 @@ public final class PromiseTest {
         due("mark(-1)", NO_ELEMENT, () -> x.mark(-1, 0));
         due("mark(0, 7)", NO_ELEMENT, () -> x.mark(0, 7));
         due("mark(0, -1)", NO_ELEMENT, () -> x.mark(0, -1));
-    }
-
-    private static void dueSounds(String name, String sounds) {
-        MarkField x = of("lands 1;mark " + name + " 0;");
-        due("sounds of " + name, sounds.length(), () -> x.mark(0, 4));
-        for (int k = 0; k <= sounds.length(); k++) {
-            int place = k;
-            int want = k < sounds.length() ? "VFKLMNPRST".indexOf(sounds.charAt(k)) : NONE;
-            due("sound " + k + " of " + name, want, () -> x.letter(0, place, true));
-        }
     }
 
     private static void letters() {
@@ -1078,7 +977,6 @@ public final class PromiseTest {
         imaging();
         asking();
         askingWrong();
-        System.out.println(checks + " answers looked at, " + wrong + " wrong");
-        System.exit(wrong == 0 ? 0 : 1);
+        end();
     }
 }
