@@ -991,7 +991,26 @@ public final class MarkField {
             return 100 - (50 * far + longer - 1) / longer;
         }
 
+        /**
+         * What two rows have in common at their ends costs nothing, so only what stands between
+         * is gone through: names that are compared are often the same but for a letter.
+         */
         private int farOf(byte[] rows, int a, int aLength, int b, int bLength, int[] kin) {
+            int shorter = Math.min(aLength, bLength);
+            int ahead = 0;
+            while (ahead < shorter && rows[a + ahead] == rows[b + ahead]) {
+                ahead++;
+            }
+            int behind = 0;
+            while (behind < shorter - ahead
+                    && rows[a + aLength - 1 - behind] == rows[b + bLength - 1 - behind]) {
+                behind++;
+            }
+            int both = ahead + behind;
+            return costOf(rows, a + ahead, aLength - both, b + ahead, bLength - both, kin);
+        }
+
+        private int costOf(byte[] rows, int a, int aLength, int b, int bLength, int[] kin) {
             for (int j = 0; j <= bLength; j++) {
                 costs[j] = 2 * j;
             }
@@ -999,12 +1018,19 @@ public final class MarkField {
                 int one = rows[a + i];
                 int kinOfOne = kin[one];
                 int aslant = costs[0];
-                costs[0] = 2 * (i + 1);
+                int left = aslant + 2;
+                costs[0] = left;
                 for (int j = 0; j < bLength; j++) {
                     int other = rows[b + j];
-                    int change = one == other ? 0 : isIn(other, kinOfOne) ? 1 : 2;
-                    int least = Math.min(aslant + change, Math.min(costs[j], costs[j + 1]) + 2);
-                    aslant = costs[j + 1];
+                    int above = costs[j + 1];
+                    int least = aslant;
+                    if (one != other) {
+                        least += (kinOfOne >> other & 1) != 0 ? 1 : 2;
+                        int gone = (left < above ? left : above) + 2;
+                        least = gone < least ? gone : least;
+                    }
+                    aslant = above;
+                    left = least;
                     costs[j + 1] = least;
                 }
             }
@@ -1263,7 +1289,7 @@ public final class MarkField {
         }
 
         boolean isWord(String word) {
-            if (kind != WORD || tokenLength() != word.length()) {
+            if (kind != WORD || behind - start != word.length()) {
                 return false;
             }
             for (int k = 0; k < word.length(); k++) {

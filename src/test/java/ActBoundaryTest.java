@@ -168,8 +168,12 @@ public final class ActBoundaryTest extends Boundaries {
         due("its use", 7, () -> x.used(1, 0, 1));
         due("its consent", 1, () -> x.two(0, 1, 6));
         due("one consent", 1, () -> x.count(4));
+        due("all else is as it was", 1, () -> bit(registerOf(x).equals(registerOf(
+                of("lands 2;mark aa 1 1;mark cccc 3 3;use 0 0 5 6;use 1 3 7 8;consent 0 1;")))));
         MarkField y = of(three + "consent 1 2;");
         dueAct("the first one", y, 2, () -> y.drop(0));
+        due("all else is as it was", 1, () -> bit(registerOf(y).equals(registerOf(
+                of("lands 2;mark bbb 2 2;mark cccc 3 3;use 1 3 7 8;consent 0 1;")))));
         due("the second one is 0", 1, () -> bit(nameOf(y, 0).equals("bbb")));
         due("its class", 4, () -> y.mark(0, 1));
         due("no use", 0, () -> y.mark(0, 2));
@@ -182,6 +186,27 @@ public final class ActBoundaryTest extends Boundaries {
         due("the last one's use", 3, () -> full.used(10, 0, 2));
         due("its consent", 1, () -> full.two(9, 10, 6));
         due("the other one is gone", 1, () -> full.count(4));
+        MarkField last = of(TWELVE + "consent 0 11;consent 1 10;use 10 1 2 3;use 11 0 4 5;");
+        due("the last one of twelve", 11, () -> last.drop(11));
+        due("the one ahead of it is as it was", 3, () -> last.used(10, 0, 2));
+        due("with its consent", 1, () -> last.two(1, 10, 6));
+        due("and no other", 1, () -> last.count(4));
+        due("then there is room", 11, () -> file(last, "zz", 0, 0));
+        due("for one without uses", 0, () -> last.mark(11, 2));
+        StringBuilder text = new StringBuilder("lands 1;");
+        for (int k = 0; k < 12; k++) {
+            text.append("mark ").append(times("" + (char) ('a' + k), 10)).append(' ').append(k).append(' ');
+            text.append(k % 10).append(';');
+        }
+        MarkField many = of(text.toString());
+        due("one of many", 11, () -> many.drop(2));
+        for (int k = 0; k < 11; k++) {
+            int mark = k;
+            int was = k < 2 ? k : k + 1;
+            due("name of " + k, 1, () -> bit(nameOf(many, mark).equals(times("" + (char) ('a' + was), 10))));
+            due("day of " + k, was, () -> many.mark(mark, 0));
+            due("class of " + k, 1 << was % 10, () -> many.mark(mark, 1));
+        }
         says("NoSuchElementException: no such MARK.");
         due("none is left", NO_ELEMENT, () -> y.drop(0));
         dueUnchanged("mark 2", x, NO_ELEMENT, () -> x.drop(2));

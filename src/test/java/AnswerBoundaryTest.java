@@ -312,6 +312,8 @@ public final class AnswerBoundaryTest extends Boundaries {
         due("day 0", 0, () -> x.firstDay(1, 11));
         due("by filing", 100, () -> x.firstDay(0, 11));
         due("by use", 99, () -> x.firstDay(0, 10));
+        MarkField longer = of("lands 1;mark abc 9999 0;use 0 0 40 50;");
+        due("the first day of a longer use", 40, () -> longer.firstDay(0, 0));
         x.use(1, 11, 100, 120);
         due("when the other one has lapsed", 123, () -> x.firstDay(0, 11));
         due("the last day", 9999, () -> of("lands 1;mark a 9999;").firstDay(0, 1));
@@ -383,6 +385,12 @@ public final class AnswerBoundaryTest extends Boundaries {
         MarkField late = of("lands 1;lapse 0;mark abc 9999 0;use 0 1 5 9997;");
         due("a day ahead of the last one", 9998, () -> would(late, "abc", 1, 5, 3));
         due("none on the last one", NONE, () -> would(late, "abc", 1, 9999, 3));
+        // One that is refused itself is no bar: the second one for the first, so the new one is free.
+        MarkField chain = of("lands 1;mark abc 1 0;mark abc 2 0 1;");
+        due("alike to the second alone", 3, () -> would(chain, "abc", 2, 5, 0));
+        due("refused for none", NONE, () -> would(chain, "abc", 2, 5, 1));
+        due("field of one", 1, () -> would(chain, "abc", 2, 5, 2));
+        due("free at once", 5, () -> would(chain, "abc", 2, 5, 3));
         // Were it there, all would be crowded: what is alike then is told with it.
         MarkField crowd = of("lands 1;like 80;crowd 20;room 1;mark palto 0 0;mark balto 0 0;");
         due("in a crowd", 3, () -> would(crowd, "balta", 1, 5, 0));
@@ -442,6 +450,7 @@ public final class AnswerBoundaryTest extends Boundaries {
         due("both filed", 1023 - 1 - 16 - 32 - 512, () -> free(x, "abc", 9999));
         due("another name", 1023, () -> free(x, "zzz", 9999));
         due("no marks", 1023, () -> free(new MarkField(), "abc", 0));
+        due("one that is refused is no bar", 1022, () -> free(of("lands 1;mark abc 1 0;mark abc 2 0 1;"), "abc", 5));
         due("none is free", 0, () -> free(of("lands 1;mark abc 0 0 1 2 3 4 5 6 7 8 9;"), "abc", 0));
         MarkField full = of(TWELVE_ALIKE);
         due("twelve are no bar", 1022, () -> free(full, "abc", 7));
@@ -482,6 +491,11 @@ public final class AnswerBoundaryTest extends Boundaries {
         String halves = "lands 1;ear 0;like 67;lapse 0;mark rrr 9999 0;mark arr 9999 0;use 0 0 1 20;use 1 1 1 20;";
         due("in both halves", 1, () -> of(halves + "mark rrr 9 0;").letterFor(2, 9));
         due("in one alone", 0, () -> of(halves + "mark rrr 99 0;use 2 0 9 9;").letterFor(2, 9));
+        String other = "lands 1;ear 0;like 67;lapse 0;mark rrr 9999 0;use 0 1 1 20;mark rrr 99 0;use 1 1 9 9;";
+        due("in half 1 alone", 0, () -> of(other).letterFor(1, 9));
+        // Free of the first one, it is like the second, which is refused for the third.
+        due("one that is refused is no bar", 0,
+                () -> of("lands 1;ear 0;like 67;mark rrr 1 0;mark arr 3 1 2;mark arr 2 2;mark rrr 4 0 1;").letterFor(3, 4));
         due("in the other alone it holds", NONE, () -> of(halves + "mark rrr 99 0;use 2 1 9 9;").letterFor(2, 9));
         says("(NONE: none such; also if it HOLDS these now)");
         MarkField x = of("lands 1;ear 0;like 50;mark mm 1 0;mark mm 2 0;");

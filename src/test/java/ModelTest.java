@@ -77,10 +77,16 @@ public final class ModelTest {
     }
 
     private int some(int size) {
+        if (random.nextInt(150) == 0) {
+            return Due.WILD[random.nextInt(Due.WILD.length)];
+        }
         return random.nextInt(20) == 0 ? random.nextInt(size + 4) - 2 : random.nextInt(Math.max(1, size));
     }
 
     private int someDay() {
+        if (random.nextInt(200) == 0) {
+            return Due.WILD[random.nextInt(Due.WILD.length)];
+        }
         return random.nextInt(25) == 0 ? random.nextInt(10010) - 5 : random.nextInt(days);
     }
 

@@ -265,6 +265,13 @@ public final class TermsBoundaryTest extends Boundaries {
         dueFault("lands 1;mark a 0;consent 1 0;mark b 0;", 2, 25);
         dueFault("lands 1;mark a 0;consent 0 1;mark b 0;", 2, 27);
         dueFault(TWELVE + "use 12 0 0 0;", 2, 120);
+        dueFault(TWELVE + "use 13 0 0 0;", 2, 120);
+        dueFault(TWELVE + "use 99999999999 0 0 0;", 2, 120);
+        dueFault(TWELVE + "consent 12 0;", 2, 124);
+        dueFault(TWELVE + "consent 0 99999999999;", 2, 126);
+        // One that an earlier register told is none, were its uses ever so many.
+        MarkField later = of("lands 1;mark a 0;mark b 0;" + times("use 1 0 0 0;", 12));
+        due("told in another text", -12, () -> later.register(put(later, "lands 1;mark a 0;use 1 0 0 0;")));
         says("of no HALF there is");
         dueFault("lands 1;mark a 0;use 0 2 0 0;", 2, 23);
         dueFault("lands 6;mark a 0;use 0 12 0 0;", 2, 23);
@@ -295,6 +302,9 @@ public final class TermsBoundaryTest extends Boundaries {
         String full = "lands 1;mark a 0;mark b 0;" + times("use 1 0 0 0;", 12);
         dueFault(full + "use 1 0 0 0;", 4, full.length() + 4);
         dueFault(full + "use 01", 4, full.length() + 4);
+        dueFault(full + "use b 0 0 0;", 1, full.length() + 4);
+        dueFault(full + "use", 1, full.length() + 3);
+        dueFault("lands 1;mark a 0;" + times("use 0 0 0 0;", 12) + "use;", 1, 164);
         dueFault(full + "use 1 9 9 8;", 4, full.length() + 4);
         due("of another one", 1, () -> of(full + "use 0 0 0 0;").mark(0, 2));
     }
@@ -335,6 +345,18 @@ public final class TermsBoundaryTest extends Boundaries {
         }
         dueSounds("hl", "L");
         dueSounds("wl", "L");
+        says("SOUNDS of a NAME");
+        // What stands behind a name, in the next one or in one that was there before, is nothing to it.
+        String[][] ends = {{"p", "h", "P"}, {"t", "h", "T"}, {"c", "e", "K"}, {"g", "h", "K"}, {"s", "h", "S"}};
+        for (String[] row : ends) {
+            MarkField x = of("lands 1;mark laaaaaaaa" + row[0] + " 0;mark " + row[1] + " 0;");
+            int want = "VFKLMNPRST".indexOf(row[2]);
+            due("the last sound ahead of " + row[1], want, () -> x.letter(0, 1, true));
+            MarkField y = of("lands 1;mark " + row[0] + row[1] + " 0;");
+            y.drop(0);
+            y.file(put(y, row[0]), 0, 0);
+            due("sound of " + row[0] + " where " + row[1] + " stood", want, () -> y.letter(0, 0, true));
+        }
         says("then of like SOUNDS side by side one stays");
         String[][] doubles = {{"papap", "P"}, {"mum", "M"}, {"xs", "KS"}, {"sx", "SKS"}, {"kx", "KS"}, {"bp", "P"},
             {"nmn", "NMN"}, {"lwhl", "L"}, {"ckk", "K"}, {"zsz", "S"}, {"xk", "KSK"}};
@@ -347,11 +369,14 @@ public final class TermsBoundaryTest extends Boundaries {
         dueSounds("haaaaaaaaa", "");
     }
 
-    /** Likeness of letters, or of sounds (what 1), both ways round. */
+    /** Likeness of letters, or of sounds (what 1), both ways round, whichever was told first. */
     private static void dueLikeness(String one, String other, int what, int want) {
-        MarkField x = of("lands 1;mark " + one + " 0;mark " + other + " 0;");
-        due(one + " and " + other, want, () -> x.two(0, 1, what));
-        due(other + " and " + one, want, () -> x.two(1, 0, what));
+        String[][] orders = {{one, other}, {other, one}};
+        for (String[] order : orders) {
+            MarkField x = of("lands 1;mark " + order[0] + " 0;mark " + order[1] + " 0;");
+            due(order[0] + " and " + order[1], want, () -> x.two(0, 1, what));
+            due(order[1] + " and " + order[0], want, () -> x.two(1, 0, what));
+        }
     }
 
     private static void likeness() {
@@ -361,6 +386,16 @@ public final class TermsBoundaryTest extends Boundaries {
         dueLikeness("abcd", "bcda", 0, 50);
         dueLikeness("abcdefghij", "bcdefghija", 0, 80);
         dueLikeness("xxxxxxxxxx", "xxxxxxxxxk", 1, 95);
+        dueLikeness("xxxxxxxxxx", "zk", 1, 10);
+        dueLikeness("xxxxxxxxxx", "kzkzkzkzkz", 1, 50);
+        // Only what stands at one place is common to both ends: it is counted once.
+        dueLikeness("ra", "rz", 0, 50);
+        dueLikeness("ar", "zr", 0, 50);
+        dueLikeness("rr", "rrrr", 0, 50);
+        dueLikeness("rtr", "rttr", 0, 75);
+        dueLikeness("rtrtr", "rtr", 0, 60);
+        dueLikeness("r", "rrrrrrrrrr", 0, 10);
+        dueLikeness("rst", "rxt", 0, 66);
         says("one that comes, one that goes 2");
         dueLikeness("ab", "a", 0, 50);
         dueLikeness("abcdefghij", "bcdefghij", 0, 90);
@@ -475,6 +510,12 @@ public final class TermsBoundaryTest extends Boundaries {
         full.rule(1, 20);
         full.rule(2, 0);
         due("100 at most", 1, () -> full.two(0, 11, 5));
+        // mentolo and mentol: 99 by an ear of 99.
+        MarkField almost = of("lands 1;ear 99;like 90;crowd 20;room 0;mark mentolo 0 0;mark mentol 0 0;");
+        due("99", 99, () -> almost.two(0, 1, 2));
+        due("99 is not enough", 0, () -> almost.two(0, 1, 5));
+        almost.rule(1, 9);
+        due("99 of 99", 1, () -> almost.two(0, 1, 5));
         // Mark 1 is crowded by nobody but mark 2, mark 2 by both.
         MarkField z = of("lands 1;like 80;crowd 11;room 1;mark palto 0 0;mark balto 0 1;mark palto 0 0 1;");
         due("the greater one is the other's", 0, () -> z.two(1, 2, 5));
@@ -509,12 +550,16 @@ public final class TermsBoundaryTest extends Boundaries {
         dueSince(of("lands 1;lapse 3;mark a 9999;use 0 0 1 5;use 0 0 9 9;"), new int[][] {{8, 1}, {9, 1}, {12, 1}});
         dueSince(of("lands 1;lapse 3;mark a 9999;use 0 0 1 5;use 0 0 10 10;"),
                 new int[][] {{8, 1}, {9, NONE}, {10, 10}});
-        // Twelve in a row, told from the last one on: the way back goes through all of them.
-        StringBuilder row = new StringBuilder("lands 1;lapse 0;mark a 9999;");
-        for (int k = 11; k >= 0; k--) {
-            row.append("use 0 0 ").append(10 * k).append(' ').append(10 * k + 9).append(';');
+        // Twelve in a row, told from the last one on or from the first: the way back goes through all.
+        StringBuilder falling = new StringBuilder("lands 1;lapse 0;mark a 9999;");
+        StringBuilder rising = new StringBuilder("lands 1;lapse 0;mark a 9999;");
+        for (int k = 0; k < 12; k++) {
+            rising.append("use 0 0 ").append(10 * k).append(' ').append(10 * k + 9).append(';');
+            falling.append("use 0 0 ").append(110 - 10 * k).append(' ').append(119 - 10 * k).append(';');
         }
-        dueSince(of(row.toString()), new int[][] {{0, 0}, {119, 0}, {120, NONE}});
+        int[][] ends = {{0, 0}, {55, 0}, {119, 0}, {120, NONE}};
+        dueSince(of(falling.toString()), ends);
+        dueSince(of(rising.toString()), ends);
         dueSince(of("lands 1;lapse 0;mark a 9999;use 0 0 5 6;use 0 0 1 30;use 0 0 8 9;use 0 0 0 0;"),
                 new int[][] {{30, 0}, {9, 0}, {0, 0}, {31, NONE}});
     }
@@ -711,6 +756,74 @@ public final class TermsBoundaryTest extends Boundaries {
         due("like is that of the image", 1, () -> z.count(5));
     }
 
+    private static int file(MarkField x, String name, int classes, int day) {
+        return x.file(put(x, name), classes, day);
+    }
+
+    /** What follows from names, classes and rules: all of it is told anew behind each act. */
+    private static void dueFollows(String what, MarkField x, int alike, int field, int group) {
+        due(what + ": alike", alike, () -> x.count(13));
+        due(what + ": field of 0", field, () -> x.mark(0, 5));
+        due(what + ": group of 0", group, () -> x.group(0));
+    }
+
+    private static void whatFollows() {
+        says("ACTS: file(), use(), consent(), drop(), rule(), near()");
+        MarkField x = of("lands 1;mark abc 5 0;mark zzz 5 1;");
+        x.image();
+        dueFollows("at first", x, 0, 0, 1);
+        file(x, "abc", 2, 5);
+        dueFollows("filed", x, 0, 0, 1);
+        x.near(0, 1, true);
+        dueFollows("neighbours", x, 0, 0, 1);
+        x.rule(3, 1);
+        dueFollows("reach", x, 1, 1, 5);
+        x.rule(0, 0);
+        dueFollows("like", x, 3, 2, 7);
+        x.rule(0, 60);
+        dueFollows("like again", x, 1, 1, 5);
+        x.drop(1);
+        dueFollows("dropped", x, 1, 1, 3);
+        due("holders", 1, () -> x.holders(0, 5));
+        x.use(1, 0, 1, 2);
+        due("holders by use", 2, () -> x.holders(0, 5));
+        x.consent(0, 1, true);
+        due("holders by consent", 3, () -> x.holders(0, 5));
+        x.near(0, 1, false);
+        dueFollows("no neighbours", x, 0, 0, 1);
+        x.undo();
+        dueFollows("undone", x, 1, 1, 3);
+        x.undo();
+        due("holders without consent", 2, () -> x.holders(0, 5));
+        x.undo();
+        due("holders without the use", 1, () -> x.holders(0, 5));
+        x.undo();
+        dueFollows("three again", x, 1, 1, 5);
+        due("sounds of zzz", 1, () -> x.mark(1, 4));
+        due("sounds of abc", 3, () -> x.mark(2, 4));
+        x.back();
+        dueFollows("back", x, 0, 0, 1);
+        due("sounds of abc", 3, () -> x.mark(0, 4));
+        file(x, "abc", 1, 6);
+        dueFollows("filed again", x, 1, 1, 5);
+        // The new one stands in the place of another one, and is heard anew.
+        x.drop(2);
+        file(x, "xabc", 1, 6);
+        due("sounds of xabc", 4, () -> x.mark(2, 4));
+        due("likeness of letters", 75, () -> x.two(0, 2, 0));
+        // One that is no more is refused nowhere and shares nothing.
+        MarkField y = of("lands 1;lapse 0;mark abc 9 0;mark abc 9 0;use 0 1 1 2;use 1 0 1 2;");
+        due("a land is shared", 1, () -> y.shared(1));
+        due("one is refused", 2, () -> y.refused(9, 0));
+        y.drop(1);
+        due("none is refused", 0, () -> y.refused(9, 0));
+        due("none is the first of them", NONE, () -> y.refused(9, 1));
+        y.undo();
+        due("shared again", 1, () -> y.shared(1));
+        y.drop(1);
+        due("shared no more", 0, () -> y.shared(1));
+    }
+
     private static void constants() {
         says("`NONE = -1`: There is none.");
         due("NONE", -1, () -> NONE);
@@ -738,6 +851,7 @@ public final class TermsBoundaryTest extends Boundaries {
         questions();
         values();
         actsAndImages();
+        whatFollows();
         constants();
         endOfPromises();
     }

@@ -66,6 +66,14 @@ public final class TextBoundaryTest extends Boundaries {
         due("room again", 20, () -> full.feed(0, 0, 0, 0, 0));
     }
 
+    private static void dueSoundsOf(MarkField x, int mark, String sounds) {
+        due("sounds", sounds.length(), () -> x.mark(mark, 4));
+        for (int k = 0; k < sounds.length(); k++) {
+            int place = k;
+            due("sound " + k, "VFKLMNPRST".indexOf(sounds.charAt(k)), () -> x.letter(mark, place, true));
+        }
+    }
+
     private static void register() {
         part("Promise 3: register");
         says("The tape's first n bytes");
@@ -75,6 +83,15 @@ public final class TextBoundaryTest extends Boundaries {
             MarkField x = new MarkField();
             put(x, text);
             due("first " + cut[0], cut[1], () -> x.register(cut[0]));
+        }
+        // What stands behind them is not read, not even of a word or of a number.
+        String[][] behind = {{"lands 10;", "7", "-11", "7"}, {"lands 1;mark abcdefghijk 0;", "23", "-11", "23"},
+            {"lands 1;mark a 10000;", "19", "-11", "19"}, {"lands 1;nearby", "12", "-11", "12"}};
+        for (String[] row : behind) {
+            MarkField cut = new MarkField();
+            put(cut, row[0]);
+            due(row[0], Integer.parseInt(row[2]), () -> cut.register(Integer.parseInt(row[1])));
+            due("at the end", Integer.parseInt(row[3]), () -> cut.fault());
         }
         MarkField longest = new MarkField();
         put(longest, "lands 1;" + times(" ", 683) + "mark a 0;");
@@ -104,6 +121,16 @@ public final class TextBoundaryTest extends Boundaries {
         due("two marks", 2, () -> y.register(m));
         due("as if it were the first one", 1, () -> bit(seen(y).equals(seen(of("lands 1;mark c 9;mark d 9;")))));
         due("nothing to undo", NONE, () -> y.undo());
+        // All that follows from it is of the new one, too.
+        MarkField other = of("lands 1;near 0 1;reach 1;mark abc 0 0;mark abc 0 1;mark zzz 0 0;use 0 0 1 2;");
+        due("alike", 1, () -> other.two(0, 1, 5));
+        other.register(put(other, "lands 1;mark phx 5 0;mark mmm 6 0;mark mmm 7 0;"));
+        dueSoundsOf(other, 0, "FKS");
+        dueSoundsOf(other, 1, "M");
+        due("not alike", 0, () -> other.two(0, 1, 5));
+        due("these are", 1, () -> other.two(1, 2, 5));
+        due("fields", 1, () -> other.mark(2, 5));
+        due("holders", 3, () -> other.holders(0, 7));
         due("none at all", 0, () -> y.register(put(y, "lands 1;")));
         String twelve = "lands 1;" + times("mark a 0;", 12);
         due("twelve", 12, () -> y.register(put(y, twelve)));
@@ -208,6 +235,10 @@ public final class TextBoundaryTest extends Boundaries {
         due("mark=", HIDDEN - 1, () -> x.ask(11, 0));
         put(x, "many mark=1 foo");
         due("what stands behind", 1, () -> x.ask(12, 0));
+        put(x, "many 1=marks");
+        due("a word cut short", 1, () -> x.ask(11, 0));
+        put(x, "many 1=10000");
+        due("a number cut short", 12, () -> x.ask(8, 0));
         says("(it is empty then, whatever comes of it)");
         due("empty behind an answer", 0, () -> x.count(12));
         put(x, "many foo" + times(" ", 100));
