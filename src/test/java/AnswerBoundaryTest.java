@@ -477,6 +477,8 @@ public final class AnswerBoundaryTest extends Boundaries {
         says("The first one letter of a MARK's NAME that could be another one (26 times its place and that letter's number, "
                 + "0 to 25; the least)");
         due("a at place 0", 0, () -> of("lands 1;ear 0;like 51;mark mm 1 0;mark mm 2 0;").letterFor(1, 2));
+        due("of mark 0", 0, () -> of("lands 1;ear 0;like 51;mark mm 2 0;mark mm 1 0;").letterFor(0, 2));
+        due("of the last one of twelve", 0, () -> of("lands 1;ear 0;like 51;" + times("mark mm 1 0;", 12)).letterFor(11, 1));
         // Any letter leaves one place like rr; with a z it is like zz, too, and so in a crowd.
         String crowd = "lands 1;ear 0;crowd 1;room 1;";
         due("z at place 0", 25, () -> of(crowd + "like 50;mark rr 1 0;mark zz 2 0;mark rr 3 0;").letterFor(2, 3));
