@@ -14,6 +14,7 @@ public final class MarkField {
     private static final int QUESTION_SIZE = 200;
     private static final int MOST_OPEN = 6;
     private static final int MOST_LANDS = 6;
+    private static final int MOST_HALVES = 12;
     private static final int MOST_MARKS = 12;
     // One place more than marks can be kept: a name that is only imagined stands behind all others.
     private static final int PLACES = 13;
@@ -242,7 +243,8 @@ public final class MarkField {
             return now.priorityOf(mark, half, day);
         }
         Likeness l = likeness();
-        standing.settle(now, l, half, day, l.groupOf(now, mark));
+        standing.rank(now, half, day, l.groupOf(now, mark));
+        standing.settle(now, l, half);
         return what == 2 ? standing.refusedFor[mark] : standing.holding >> mark & 1;
     }
 
@@ -262,7 +264,8 @@ public final class MarkField {
     public int holders(int half, int day) throws NoSuchElementException, IllegalArgumentException {
         needHalf(half);
         needDay(day);
-        standing.settle(now, likeness(), half, day, now.allMarks());
+        standing.rank(now, half, day, now.allMarks());
+        standing.settle(now, likeness(), half);
         return standing.holding;
     }
 
@@ -303,7 +306,8 @@ public final class MarkField {
         int among = l.groupOf(now, mark);
         int day = 0;
         for (int turn = 0; turn <= LAST_DAY && day <= LAST_DAY; turn++) {
-            standing.settle(now, l, half, day, among);
+            standing.rank(now, half, day, among);
+            standing.settle(now, l, half);
             if (isIn(mark, standing.holding)) {
                 return day;
             }
@@ -336,12 +340,13 @@ public final class MarkField {
             return HIDDEN;
         }
         int mark = imagine(likeness(), n, 0, day);
+        standing.rankAll(trial, day);
         int classes = 0;
         for (int c = 0; c < CLASSES; c++) {
             trial.classes[mark] = 1 << c;
             imagined.compareGoods(trial, mark);
             imagined.judge(trial);
-            if (wouldHold(mark, trial.allHalves(), day)) {
+            if (wouldHold(mark, trial.allHalves())) {
                 classes |= 1 << c;
             }
         }
@@ -353,12 +358,13 @@ public final class MarkField {
         needDay(day);
         trial.copy(now);
         imagined.copy(likeness());
+        standing.rankAll(trial, day);
         int wanted = now.halvesWithPriority(mark, day);
-        if (wouldHold(mark, wanted, day)) {
+        if (wouldHold(mark, wanted)) {
             return NONE;
         }
         for (int place = 0; place < now.lengths[mark]; place++) {
-            int found = letterAt(mark, place, wanted, day);
+            int found = letterAt(mark, place, wanted);
             if (found != NONE) {
                 return ALPHABET * place + found;
             }
@@ -376,10 +382,10 @@ public final class MarkField {
         needHalf(half);
         needDay(day);
         standing.rank(now, half, day, now.allMarks());
-        if (k < 0 || k >= standing.ranks) {
+        if (k < 0 || k >= standing.ranks[half]) {
             throw new NoSuchElementException("no mark of that rank");
         }
-        return standing.order[k];
+        return standing.inOrder(half, k);
     }
 
     public int file(int n, int classes, int day) throws IllegalArgumentException {
@@ -610,11 +616,11 @@ public final class MarkField {
         return mark;
     }
 
-    private boolean wouldHold(int mark, int halves, int day) {
-        int among = imagined.groupOf(trial, mark);
+    /** In the order that was found before: no letter and no class changes a priority. */
+    private boolean wouldHold(int mark, int halves) {
         for (int half = 0; half < trial.halfCount(); half++) {
             if (isIn(half, halves)) {
-                standing.settle(trial, imagined, half, day, among);
+                standing.settle(trial, imagined, half);
                 if (!isIn(mark, standing.holding)) {
                     return false;
                 }
@@ -628,16 +634,30 @@ public final class MarkField {
         int day = from;
         for (int turn = 0; turn <= LAST_DAY && day <= LAST_DAY; turn++) {
             trial.filed[mark] = day;
-            if (wouldHold(mark, trial.allHalves(), day)) {
+            int lost = firstLost(mark, day, among);
+            if (lost == NONE) {
                 return day;
             }
-            day = trial.nextChange(NONE, day, among);
+            // It is kept from that half till something changes there, whatever comes elsewhere.
+            day = trial.nextChange(lost, day, among);
+        }
+        return NONE;
+    }
+
+    /** The first half that the trial's mark would not hold; NONE: it would hold them all. */
+    private int firstLost(int mark, int day, int among) {
+        for (int half = 0; half < trial.halfCount(); half++) {
+            standing.rank(trial, half, day, among);
+            standing.settle(trial, imagined, half);
+            if (!isIn(mark, standing.holding)) {
+                return half;
+            }
         }
         return NONE;
     }
 
     /** The least letter that frees the trial's mark at one place; the name is as before then. */
-    private int letterAt(int mark, int place, int wanted, int day) {
+    private int letterAt(int mark, int place, int wanted) {
         int at = mark * MOST_LETTERS + place;
         byte before = trial.letters[at];
         int found = NONE;
@@ -645,7 +665,7 @@ public final class MarkField {
             if (letter != before) {
                 trial.letters[at] = (byte) letter;
                 imagined.rename(trial, mark);
-                if (wouldHold(mark, wanted, day)) {
+                if (wouldHold(mark, wanted)) {
                     found = letter;
                 }
             }
@@ -813,8 +833,8 @@ public final class MarkField {
         }
 
         /**
-         * The first day behind one on which a priority in a half (NONE: in any half) can change:
-         * between such days all stands still. A day behind the last one, if there is none.
+         * The first day behind one on which a priority in a half can change: between such days
+         * all stands still there. A day behind the last one, if there is none.
          */
         int nextChange(int half, int day, int among) {
             int next = LAST_DAY + 1;
@@ -823,7 +843,7 @@ public final class MarkField {
                     next = sooner(next, filed[m], day);
                     for (int k = 0; k < useCounts[m]; k++) {
                         int at = useAt(m, k);
-                        if (half == NONE || uses[at] == half) {
+                        if (uses[at] == half) {
                             next = sooner(next, uses[at + 1], day);
                             next = sooner(next, uses[at + 2] + rules[LAPSE] + 1, day);
                         }
@@ -1122,51 +1142,63 @@ public final class MarkField {
 
     /** Who stands how in a half on a day; then, over all halves of a day, what each has there. */
     private static final class Standing {
-        final int[] order = new int[PLACES];
+        // Of each half a row of those with priority there, the most senior one first.
+        private final int[] order = new int[MOST_HALVES * PLACES];
+        final int[] ranks = new int[MOST_HALVES];
         final int[] refusedFor = new int[PLACES];
         final int[] entitled = new int[PLACES];
         final int[] held = new int[PLACES];
         final int[] leastRefusedFor = new int[PLACES];
         private final int[] priorities = new int[PLACES];
-        int ranks = 0;
         int holding = 0;
 
-        /** Those with priority in their order, the most senior one first. */
-        void rank(Register register, int half, int day, int among) {
-            ranks = 0;
-            for (int m = 0; m < register.marks; m++) {
-                refusedFor[m] = NONE;
-                priorities[m] = isIn(m, among) ? register.priorityOf(m, half, day) : NONE;
-                if (priorities[m] != NONE) {
-                    int at = ranks;
-                    for (; at > 0 && priorities[order[at - 1]] > priorities[m]; at--) {
-                        order[at] = order[at - 1];
-                    }
-                    order[at] = m;
-                    ranks++;
-                }
-            }
+        int inOrder(int half, int k) {
+            return order[half * PLACES + k];
         }
 
         /** Among some marks only: all that are alike to one of these have to be among them. */
-        void settle(Register register, Likeness likeness, int half, int day, int among) {
-            rank(register, half, day, among);
+        void rank(Register register, int half, int day, int among) {
+            int first = half * PLACES;
+            int behind = first;
+            for (int m = 0; m < register.marks; m++) {
+                priorities[m] = isIn(m, among) ? register.priorityOf(m, half, day) : NONE;
+                if (priorities[m] != NONE) {
+                    int at = behind;
+                    for (; at > first && priorities[order[at - 1]] > priorities[m]; at--) {
+                        order[at] = order[at - 1];
+                    }
+                    order[at] = m;
+                    behind++;
+                }
+            }
+            ranks[half] = behind - first;
+        }
+
+        void rankAll(Register register, int day) {
+            for (int half = 0; half < register.halfCount(); half++) {
+                rank(register, half, day, register.allMarks());
+            }
+        }
+
+        /** Who holds a half, by the order that rank() has found there. */
+        void settle(Register register, Likeness likeness, int half) {
             holding = 0;
-            for (int k = 0; k < ranks; k++) {
-                int m = order[k];
+            Arrays.fill(refusedFor, NONE);
+            for (int k = 0; k < ranks[half]; k++) {
+                int m = inOrder(half, k);
                 int against = likeness.alike[m] & ~register.consents[m] & holding;
                 if (against == 0) {
                     holding |= 1 << m;
                 } else {
-                    refusedFor[m] = mostSenior(against);
+                    refusedFor[m] = mostSenior(half, against);
                 }
             }
         }
 
-        private int mostSenior(int some) {
-            for (int k = 0; k < ranks; k++) {
-                if (isIn(order[k], some)) {
-                    return order[k];
+        private int mostSenior(int half, int some) {
+            for (int k = 0; k < ranks[half]; k++) {
+                if (isIn(inOrder(half, k), some)) {
+                    return inOrder(half, k);
                 }
             }
             return NONE;
@@ -1179,9 +1211,10 @@ public final class MarkField {
                 leastRefusedFor[m] = NONE;
             }
             for (int half = 0; half < register.halfCount(); half++) {
-                settle(register, likeness, half, day, among);
-                for (int k = 0; k < ranks; k++) {
-                    noteHalf(order[k], half);
+                rank(register, half, day, among);
+                settle(register, likeness, half);
+                for (int k = 0; k < ranks[half]; k++) {
+                    noteHalf(inOrder(half, k), half);
                 }
             }
         }
