@@ -28,6 +28,8 @@ public final class MarkField {
     private static final int CLASSES = 10;
     private static final int ALL_CLASSES = 1023;
     private static final int LAST_DAY = 9999;
+    // Far more than any search through days and halves can take.
+    private static final int MOST_TURNS = 1000000;
     private static final int MOST_ACTS = 12;
 
     private static final int LIKE = 0;
@@ -629,28 +631,26 @@ public final class MarkField {
         return true;
     }
 
+    /** Round the halves, on a later day wherever one is lost, till all in turn are held on one. */
     private int firstFreeDay(int mark, int from) {
         int among = imagined.groupOf(trial, mark);
         int day = from;
-        for (int turn = 0; turn <= LAST_DAY && day <= LAST_DAY; turn++) {
+        int half = 0;
+        int held = 0;
+        for (int turn = 0; turn < MOST_TURNS && day <= LAST_DAY; turn++) {
             trial.filed[mark] = day;
-            int lost = firstLost(mark, day, among);
-            if (lost == NONE) {
-                return day;
-            }
-            // It is kept from that half till something changes there, whatever comes elsewhere.
-            day = trial.nextChange(lost, day, among);
-        }
-        return NONE;
-    }
-
-    /** The first half that the trial's mark would not hold; NONE: it would hold them all. */
-    private int firstLost(int mark, int day, int among) {
-        for (int half = 0; half < trial.halfCount(); half++) {
             standing.rank(trial, half, day, among);
             standing.settle(trial, imagined, half);
-            if (!isIn(mark, standing.holding)) {
-                return half;
+            if (isIn(mark, standing.holding)) {
+                held++;
+                half = half + 1 < trial.halfCount() ? half + 1 : 0;
+            } else {
+                // It is kept from that half till something changes there, whatever comes elsewhere.
+                held = 0;
+                day = trial.nextChange(half, day, among);
+            }
+            if (held == trial.halfCount()) {
+                return day;
             }
         }
         return NONE;

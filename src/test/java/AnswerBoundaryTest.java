@@ -305,6 +305,20 @@ public final class AnswerBoundaryTest extends Boundaries {
         dueElementFirst("what", day -> x.refused(day, 2));
     }
 
+    /** In half 0 mark 0 is senior by use till a day, and mark 1 by filing from then on. */
+    private static MarkField seniorTill(int day) {
+        return of("lands 1;ear 0;lapse 30;mark rrrr 9000 0;mark rrrt 8000 0;use 0 0 0 " + (day - 30) + ";");
+    }
+
+    /** Each of twelve marks, all alike, uses half 11 for some days; there is no day till 1443 that none does. */
+    private static MarkField manyInTurn() {
+        MarkField x = of("lands 6;like 0;crowd 0;lapse 0;" + times("mark abc 9999 0;", 12));
+        for (int k = 0; k < 144; k++) {
+            x.use(k / 12, 11, 10 * k, 10 * k + 13);
+        }
+        return x;
+    }
+
     private static void firstDay() {
         part("Promise 16: firstDay");
         says("The first day on which a MARK HOLDS a HALF;");
@@ -317,7 +331,10 @@ public final class AnswerBoundaryTest extends Boundaries {
         x.use(1, 11, 100, 120);
         due("when the other one has lapsed", 123, () -> x.firstDay(0, 11));
         due("the last day", 9999, () -> of("lands 1;mark a 9999;").firstDay(0, 1));
+        due("when 0 is no more senior", 9999, () -> seniorTill(9998).firstDay(1, 0));
+        due("behind many others", 1324, () -> manyInTurn().firstDay(11, 11));
         says("NONE: none.");
+        due("it would be on day 10000", NONE, () -> seniorTill(9999).firstDay(1, 0));
         due("never", NONE, () -> of("lands 1;mark abc 0 0;mark abc 0 0;").firstDay(1, 0));
         due("filed on the last day, refused", NONE, () -> of("lands 1;mark abc 9999 0;mark abc 9999 0;").firstDay(1, 0));
         says("NoSuchElementException: no such MARK, HALF.");
@@ -385,6 +402,9 @@ public final class AnswerBoundaryTest extends Boundaries {
         MarkField late = of("lands 1;lapse 0;mark abc 9999 0;use 0 1 5 9997;");
         due("a day ahead of the last one", 9998, () -> would(late, "abc", 1, 5, 3));
         due("none on the last one", NONE, () -> would(late, "abc", 1, 9999, 3));
+        due("when the one alike to it is refused", 9999, () -> would(seniorTill(9998), "trrr", 1, 0, 3));
+        due("it would be free on day 10000", NONE, () -> would(seniorTill(9999), "trrr", 1, 0, 3));
+        due("behind many others", 1444, () -> would(manyInTurn(), "abc", 1, 0, 3));
         // One that is refused itself is no bar: the second one for the first, so the new one is free.
         MarkField chain = of("lands 1;mark abc 1 0;mark abc 2 0 1;");
         due("alike to the second alone", 3, () -> would(chain, "abc", 2, 5, 0));
