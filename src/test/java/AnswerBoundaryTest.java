@@ -372,6 +372,8 @@ public final class AnswerBoundaryTest extends Boundaries {
         due("ahead of twelve", 4095, () -> would(full, "abc", 1, 6, 0));
         due("field of twelve", 12, () -> would(full, "abc", 1, 0, 2));
         due("never free of twelve", NONE, () -> would(full, "abc", 1, 7, 3));
+        due("a 13th of ten letters", 4095, () -> would(full, "abcdefghij", 1, 7, 0));
+        due("a 13th of twenty sounds", 7, () -> would(full, "xxxxxxxxxx", 1, 7, 3));
         due("twelve as before", 12, () -> full.count(2));
         says("HALVES that it would HOLD on that day (bits; what 0)");
         due("all", 4095, () -> would(x, "abc", 1, 9, 0));
@@ -384,6 +386,11 @@ public final class AnswerBoundaryTest extends Boundaries {
         due("0 in half 11", 0, () -> would(x, "abc", 1, 10, 1));
         due("the lesser one of both", 0, () -> would(x, "abc", 1, 20, 1));
         due("1 in half 0", 1, () -> would(x, "abc", 1, 21, 1));
+        MarkField turned = of("lands 6;mark abc 9999 0;mark abc 9999 0;use 0 0 5 5;use 1 11 5 5;");
+        due("the lesser one in the first half", 0, () -> would(turned, "abc", 1, 5, 1));
+        turned.use(0, 5, 5, 5);
+        turned.use(1, 0, 4, 4);
+        due("the lesser one in the middle", 0, () -> would(turned, "abc", 1, 5, 1));
         due("1, for 0 is refused all over", 1, () -> would(x, "abc", 1, 50, 1));
         MarkField senior = of("lands 1;room 9;mark abc 9 0;mark abc 8 0;consent 0 1;");
         due("as here() tells: the most senior one alone", 1, () -> would(senior, "abc", 1, 9, 1));
@@ -405,6 +412,12 @@ public final class AnswerBoundaryTest extends Boundaries {
         due("when the one alike to it is refused", 9999, () -> would(seniorTill(9998), "trrr", 1, 0, 3));
         due("it would be free on day 10000", NONE, () -> would(seniorTill(9999), "trrr", 1, 0, 3));
         due("behind many others", 1444, () -> would(manyInTurn(), "abc", 1, 0, 3));
+        for (int k = 0; k < 144; k++) {
+            int one = k / 12;
+            int other = k % 12;
+            MarkField uses = of("lands 6;lapse 0;mark abc 9999 0;use 0 " + one + " 10 20;use 0 " + other + " 15 30;");
+            due("when " + one + " and " + other + " have lapsed", 31, () -> would(uses, "abc", 1, 10, 3));
+        }
         // One that is refused itself is no bar: the second one for the first, so the new one is free.
         MarkField chain = of("lands 1;mark abc 1 0;mark abc 2 0 1;");
         due("alike to the second alone", 3, () -> would(chain, "abc", 2, 5, 0));
@@ -462,6 +475,10 @@ public final class AnswerBoundaryTest extends Boundaries {
     private static void free() {
         part("Promise 18: free");
         says("CLASSES (bits) for which alone such a NAME would HOLD all HALVES on a day.");
+        for (int half = 0; half < 12; half++) {
+            MarkField inOne = of("lands 6;mark abc 9999 0;use 0 " + half + " 10 10;");
+            due("used in half " + half + " alone", 1022, () -> free(inOne, "abc", 10));
+        }
         MarkField x = of("lands 6;lapse 0;reach 1;near 4 5;mark abc 50 0 9;mark abc 60 5;use 1 11 10 20;");
         due("ahead of all", 1023, () -> free(x, "abc", 9));
         due("by use in one half", 1023 - 16 - 32, () -> free(x, "abc", 10));
@@ -536,10 +553,41 @@ public final class AnswerBoundaryTest extends Boundaries {
 
     // ---- groups and ranks
 
+    /** Of twelve marks, each filed behind the one before, each is alike to the one before and to that behind it. */
+    private static MarkField chainOfTwelve() {
+        StringBuilder text = new StringBuilder("lands 1;ear 0;like 85;crowd 0;");
+        for (int k = 0; k < 11; k++) {
+            text.append("mark ").append(times("t", k)).append(times("r", 10 - k)).append(" ").append(k).append(" 0;");
+        }
+        return of(text + "mark m" + times("t", 9) + " 11 0;");
+    }
+
+    private static void chains() {
+        MarkField x = chainOfTwelve();
+        due("couples in a chain", 11, () -> x.count(13));
+        for (int m = 0; m < 12; m++) {
+            int mark = m;
+            due("the whole chain from " + m, 4095, () -> x.group(mark));
+            due("every second one holds, from 0 on: " + m, 1 - m % 2, () -> x.here(mark, 0, 50, 3));
+            due("the others are refused for the one before: " + m, m % 2 == 0 ? NONE : m - 1,
+                    () -> x.here(mark, 1, 50, 2));
+            due("halves of " + m, m % 2 == 0 ? 3 : 0, () -> x.halves(mark, 50, 1));
+            due("first day of " + m, m % 2 == 0 ? m : NONE, () -> x.firstDay(mark, 0));
+        }
+        due("a 13th behind the 12th, that is refused", 3, () -> would(x, "mm" + times("t", 8), 1, 50, 0));
+        due("at once", 50, () -> would(x, "mm" + times("t", 8), 1, 50, 3));
+        x.drop(0);
+        due("a 12th behind the 11th, that holds now", 0, () -> would(x, "mm" + times("t", 8), 1, 50, 0));
+        due("refused for it", 10, () -> would(x, "mm" + times("t", 8), 1, 50, 1));
+        x.drop(4);
+        due("what is left ahead of the gap", 15, () -> x.group(0));
+        due("what is left behind it", 1008, () -> x.group(9));
+    }
+
     private static void group() {
         part("Promise 20: group");
         says("MARKS that are ALIKE to a MARK, or to such a one, and so on, itself, too (bits).");
-        // A chain of twelve by classes that two neighbours in it share; its ends are far apart.
+        // A chain of ten by classes that two neighbours in it share; its ends are far apart.
         StringBuilder chain = new StringBuilder("lands 1;");
         for (int k = 0; k < 10; k++) {
             chain.append("mark abc 0 ").append(k).append(k < 9 ? " " + (k + 1) : "").append(';');
@@ -556,6 +604,7 @@ public final class AnswerBoundaryTest extends Boundaries {
         due("alike with consent", 1023, () -> x.group(0));
         due("all twelve", 4095, () -> of(TWELVE_ALIKE).group(11));
         due("one mark", 1, () -> of("lands 1;mark a 0;").group(0));
+        chains();
         says("NoSuchElementException: no such MARK.");
         dueOutside("mark", 0, 11, NO_ELEMENT, mark -> x.group(mark));
         due("no marks", NO_ELEMENT, () -> new MarkField().group(0));
